@@ -20,6 +20,7 @@ public final class PromiseTest {
         promise05SendWholeShortPart();
         promise05SendRefusals();
         promise05WhichKind();
+        promise05TiesOfTies();
         promise05References();
         promise05RoundsTurn();
         promise05LeastBits();
@@ -282,6 +283,27 @@ public final class PromiseTest {
         due("wanted", x.look(9, 0), 0);
         for (int l = 0; l < 10; l++) {
             due("deliver " + l, x.deliver(l), 0);
+        }
+    }
+
+    /** TIED to a TIED, a RUNNING and a wider FIELD; the DIFFERENCE is modulo 2^WIDTH. */
+    private static void promise05TiesOfTies() {
+        promise = "5 ties";
+        HeaderLine x = new HeaderLine(1);
+        x.field(STILL, 8, 0, 0);
+        x.field(RUNNING, 16, 0, 0);
+        x.field(TIED, 4, 1, -1);
+        x.field(TIED, 32, 2, MIN);
+        x.field(TIED, 1, 3, MAX);
+        for (int m = 0; m < 40; m++) {
+            long running = 65520 + m;
+            long tied = (running + 15) % 16;
+            draft(x, 9, running, tied, 2147483648L + tied, (tied + 1) % 2);
+            x.send(0, false);
+            due("KIND", x.look(m, 0), m == 0 ? 0 : 2);
+            due("bits", x.look(m, 4), m == 0 ? 26 + 8 + 24 + 37 : 26 + 6 + 8);
+            due("deliver", x.deliver(m), 0);
+            dueGot(x, 9, running % 65536, tied, 2147483648L + tied, (tied + 1) % 2);
         }
     }
 
@@ -1047,6 +1069,8 @@ public final class PromiseTest {
         due("STALE of FLOW 0", x.spent(0, 5, 0), 0);
         due("STALE of FLOW 3", x.spent(3, 5, 0), 1);
         due("of FLOW 1", x.spent(1, 0, 1), 40);
+        fill(x);
+        due("STALE of FLOW 7", x.spent(7, 5, 1), 22 * 189);
         due("KIND 6", x.spent(0, 6, 0), -1);
         due("KIND -1", x.spent(0, -1, 0), -1);
         due("what 3", x.spent(0, 0, 3), -1);
@@ -1054,6 +1078,11 @@ public final class PromiseTest {
         for (int flow : OUT_OF_8) {
             due("FLOW " + flow, x.spent(flow, 0, 0), -1);
         }
+        HeaderLine y = mixed(3);
+        draft(y, 0, 5, 0, 0, 0);
+        y.send(0, false);
+        y.send(0, false);
+        due("STRIDES of WHOLE letters count", y.spent(0, 2, 2), 99 - (26 + 7 + 11 + 5 + 8));
     }
 
     private static void promise23Keep() {

@@ -1,0 +1,138 @@
+import java.io.IOException;
+import java.lang.management.ManagementFactory;
+import java.lang.reflect.Field;
+import java.lang.reflect.Method;
+import java.lang.reflect.Modifier;
+import java.nio.file.Files;
+import java.nio.file.Path;
+import java.util.Arrays;
+import java.util.Set;
+import java.util.TreeSet;
+import java.util.regex.Matcher;
+import java.util.regex.Pattern;
+import java.util.stream.Collectors;
+
+/** The public face, those rules of LANGUAGE.md that a program can see, and the room that a run takes. */
+public final class LanguageTest {
+    private static final String[] FACE = {
+        "int field(int, int, int, int)", "long set(int, long)", "int stride(int, int, int)",
+        "int send(int, boolean)", "int ack(int)", "int nack(int)", "int deliver(int)", "int lose(int)",
+        "int twice(int)", "int bend(int, int, int)", "int octet(int, int)", "int look(int, int)",
+        "int prove(int, int, int)", "long got(int)", "int way(int)", "int hung(int)",
+        "int context(int, int)", "long known(int, int, boolean)", "int squeezer(int, int)",
+        "int forget(int, int)", "long spent(int, int, int)", "int keep(int, int, int)",
+        "int make(int, int, int)", "long put(int, int, int)", "int copy(int, int, int, int, int)",
+        "int worth(int)", "int toss(int)", "int count(int)",
+    };
+
+    public static void main(String[] args) throws IOException {
+        face();
+        Set<String> publicNames = Arrays.stream(HeaderLine.class.getDeclaredMethods())
+                .filter(m -> Modifier.isPublic(m.getModifiers())).map(Method::getName).collect(Collectors.toSet());
+        Class<?>[] inside = HeaderLine.class.getDeclaredClasses();
+        Due.holds("some twelve classes at most", inside.length + 1 <= 12);
+        members(HeaderLine.class, publicNames);
+        for (Class<?> c : inside) {
+            Due.holds(c + " is static", Modifier.isStatic(c.getModifiers()));
+            Due.holds(c + " is private", Modifier.isPrivate(c.getModifiers()));
+            members(c, publicNames);
+        }
+        source(code());
+        room();
+        Due.finish();
+    }
+
+    private static void face() {
+        Class<?> c = HeaderLine.class;
+        Due.holds("public and final", Modifier.isPublic(c.getModifiers()) && Modifier.isFinal(c.getModifiers()));
+        Due.holds("no package", c.getPackageName().isEmpty());
+        Due.is("constructors", c.getDeclaredConstructors().length, 1);
+        Due.holds("the constructor", c.getDeclaredConstructors()[0].toString().equals("public HeaderLine(int)"));
+        Set<String> seen = new TreeSet<>();
+        for (Method m : c.getDeclaredMethods()) {
+            String types = Arrays.stream(m.getParameterTypes()).map(Class::getSimpleName).collect(Collectors.joining(", "));
+            if (Modifier.isPublic(m.getModifiers())) {
+                Due.holds(m + " is no static one", !Modifier.isStatic(m.getModifiers()));
+                seen.add(m.getReturnType().getSimpleName() + " " + m.getName() + "(" + types + ")");
+            } else {
+                Due.holds(m + " is private", Modifier.isPrivate(m.getModifiers()));
+            }
+        }
+        Due.holds("the face is the document's: " + seen, seen.equals(new TreeSet<>(Arrays.asList(FACE))));
+        for (Field f : c.getDeclaredFields()) {
+            Due.holds(f + " is private", Modifier.isPrivate(f.getModifiers()));
+        }
+    }
+
+    private static void members(Class<?> c, Set<String> publicNames) {
+        int fields = 0;
+        for (Field f : c.getDeclaredFields()) {
+            boolean isStatic = Modifier.isStatic(f.getModifiers());
+            fields += isStatic ? 0 : 1;
+            Due.holds(f + " is final", !isStatic || Modifier.isFinal(f.getModifiers()));
+        }
+        Due.holds(c + " has some twenty fields at most", fields <= 20);
+        for (Method m : c.getDeclaredMethods()) {
+            boolean isFace = c == HeaderLine.class && Modifier.isPublic(m.getModifiers());
+            Due.holds(m + " bears no public one's name", isFace || !publicNames.contains(m.getName()));
+            Due.holds(m + " has seven parameters at most", m.getParameterCount() <= 7);
+        }
+    }
+
+    private static String code() throws IOException {
+        Path project = Path.of(System.getProperty("project", "."));
+        String text = Files.readString(project.resolve("src/main/java/HeaderLine.java"));
+        return text.replaceAll("(?s)/\\*.*?\\*/", " ").replaceAll("//[^\n]*", " ");
+    }
+
+    private static void source(String code) {
+        String[] words = {"throw", "throws", "try", "catch", "synchronized", "assert", "package", "native", "volatile",
+            "double", "float", "Object", "System\\.(?!arraycopy\\b)", "Random", "Thread", "hashCode", "equals",
+            "toString", "\\w+Exact"};
+        for (String word : words) {
+            Due.holds("no " + word, !Pattern.compile("\\b" + word + (word.endsWith(")") ? "" : "\\b")).matcher(code).find());
+        }
+        Due.holds("no lambda, no method reference", !code.contains("->") && !code.contains("::"));
+        Matcher imports = Pattern.compile("import\\s+([^;]+);").matcher(code);
+        while (imports.find()) {
+            Due.holds("import of " + imports.group(1), imports.group(1).equals("java.util.Arrays"));
+        }
+        int begun = 0;
+        int line = 0;
+        for (String text : code.split("\n")) {
+            line++;
+            if (text.matches("( {4}| {8})(\\w.*)?\\) \\{")) {
+                begun = line;
+            } else if (text.matches("( {4}| {8})\\}")) {
+                Due.holds("the method that ends in line " + line + " is short", line - begun <= 60);
+            }
+        }
+    }
+
+    /** All calls of a run live in one room, so an object with its letters must take little of it. */
+    private static void room() {
+        com.sun.management.ThreadMXBean threads =
+                (com.sun.management.ThreadMXBean) ManagementFactory.getThreadMXBean();
+        long id = Thread.currentThread().getId();
+        fullRun();
+        long before = threads.getThreadAllocatedBytes(id);
+        long answers = fullRun();
+        long bytes = threads.getThreadAllocatedBytes(id) - before;
+        Due.holds("answers came", answers != 0);
+        Due.holds("a full run takes little room: " + bytes + " bytes", bytes > 0 && bytes < 300_000);
+    }
+
+    private static long fullRun() {
+        HeaderLine x = new HeaderLine(7);
+        long answers = 0;
+        for (int f = 0; f < 8; f++) {
+            answers += x.field(2, 32, 0, 0);
+        }
+        for (int l = 0; l < 200; l++) {
+            x.set(l % 8, l * 1_000_003L);
+            answers += x.send(0, false);
+            answers += x.deliver(l);
+        }
+        return answers;
+    }
+}
