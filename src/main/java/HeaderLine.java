@@ -216,9 +216,8 @@ public final class HeaderLine {
         if (isLineFull()) {
             return FULL;
         }
-        Letter twin = new Letter(letter.kind, letter.flow, letter.number);
-        twin.bytes = Arrays.copyOf(letter.bytes, letter.bytes.length);
-        twin.bits = letter.bits;
+        int[] bytes = Arrays.copyOf(letter.bytes, letter.bytes.length);
+        Letter twin = new Letter(letter.kind, letter.flow, letter.number, bytes, letter.bits);
         twin.isCopy = true;
         return add(twin);
     }
@@ -548,9 +547,8 @@ public final class HeaderLine {
     }
 
     private int addWritten(int kind, int flow, int number, Proof proof) {
-        Letter letter = new Letter(kind, flow, number % NUMBERS);
-        letter.bits = pen.bits;
-        letter.bytes = pen.finished(endsInCheck(kind));
+        int[] bytes = pen.finished(endsInCheck(kind));
+        Letter letter = new Letter(kind, flow, number % NUMBERS, bytes, pen.bits);
         letter.proof = proof;
         return add(letter);
     }
@@ -914,17 +912,19 @@ public final class HeaderLine {
         final int kind;
         final int flow;
         final int number;
-        int[] bytes = {};
-        int bits;
+        final int[] bytes;
+        final int bits;
         int outcome = -1;
         boolean isLost;
         boolean isCopy;
         Proof proof;
 
-        Letter(int kind, int flow, int number) {
+        Letter(int kind, int flow, int number, int[] bytes, int bits) {
             this.kind = kind;
             this.flow = flow;
             this.number = number;
+            this.bytes = bytes;
+            this.bits = bits;
         }
 
         boolean hasByte(int k) {
