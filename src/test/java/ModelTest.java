@@ -317,6 +317,7 @@ public final class ModelTest {
         due("count(" + what + ")", real.count(what), model.count(what));
     }
 
+    /** Goes on behind the 512th call, where the document leaves answers free: the class has no such end. */
     private void compareAll() {
         for (int l = 0; l < model.count(1); l++) {
             compareLetter(l);
