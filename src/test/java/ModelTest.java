@@ -1,30 +1,34 @@
 import java.util.Random;
 
-/** Long runs of calls, the same ones each time, on an object and on the model: every answer alike. */
+/** Runs of 512 calls, the same ones each time, on an object and on the model: every answer alike. */
 public final class ModelTest {
-    private static final int RUNS = 1500;
-    private static final int CALLS = 512;
+    private static final int RUNS = 8000;
+    private static final int DEAREST_STEP = 90;
     private static final int[] ODD = {-1, 8, 9, 60, 61, 200, 255, 256, 1001, 30001, Integer.MAX_VALUE, Integer.MIN_VALUE};
 
     private final Random random;
-    private final HeaderLine real;
+    private final Line real;
     private final Model model;
     private final String run;
     private final int flows;
     private final int kindsBias;
-    private int calls;
+    private final int comparedLetters;
+    private final boolean isHasty;
 
     private static final long[] OUTCOMES = new long[8];
     private static final long[] KINDS = new long[6];
+    private static long full = 0;
 
     private ModelTest(long seed) {
         random = new Random(seed);
         int w = random.nextInt(10) == 0 ? random.nextInt() : random.nextInt(8);
-        real = new HeaderLine(w);
+        real = new Line(w);
         model = new Model(w);
         run = "run " + seed + " (w " + w + ")";
         flows = 1 + random.nextInt(random.nextInt(4) == 0 ? 8 : 2);
         kindsBias = random.nextInt(3);
+        comparedLetters = random.nextInt(5);
+        isHasty = random.nextInt(16) == 0;
     }
 
     public static void main(String[] args) {
@@ -32,27 +36,45 @@ public final class ModelTest {
             new ModelTest(seed).go();
         }
         for (int outcome = 0; outcome < OUTCOMES.length; outcome++) {
-            Due.holds("OUTCOME " + outcome + " came up often: " + OUTCOMES[outcome], OUTCOMES[outcome] > 500);
+            Due.holds("OUTCOME " + outcome + " came up often: " + OUTCOMES[outcome], OUTCOMES[outcome] > 1000);
         }
         for (int kind = 0; kind < KINDS.length; kind++) {
-            Due.holds("letters of KIND " + kind + " were made often: " + KINDS[kind], KINDS[kind] > 500);
+            Due.holds("letters of KIND " + kind + " were made often: " + KINDS[kind], KINDS[kind] > 2000);
         }
+        Due.holds("the line was full often: " + full, full > 100);
         Due.finish();
     }
 
+    /** Some steps, and then looks at what has come of them, up to the last call that is promised. */
     private void go() {
         if (random.nextInt(20) != 0) {
             layPlan();
         }
-        while (calls < CALLS) {
-            step();
+        int looks = DEAREST_STEP + random.nextInt(200);
+        while (real.callsLeft() > looks) {
+            if (isHasty && random.nextInt(8) != 0) {
+                hurry();
+            } else {
+                step();
+            }
         }
-        compareAll();
+        full += model.count(1) == 200 ? 1 : 0;
+        while (real.callsLeft() > 0) {
+            observe();
+        }
     }
 
     private void due(String call, long got, long want) {
-        calls++;
-        Due.is(run + " call " + calls + ": " + call, got, want);
+        Due.is(run + ", " + real.callsLeft() + " calls ahead of its end: " + call, got, want);
+    }
+
+    private void hurry() {
+        int flow = flow();
+        if (random.nextInt(3) == 0) {
+            nack(flow);
+        } else {
+            tell(flow, random.nextInt(12) == 0);
+        }
     }
 
     private void layPlan() {
@@ -134,29 +156,33 @@ public final class ModelTest {
                 set(f, now + jump);
             }
         }
-        int flow = flow();
-        boolean whole = random.nextInt(12) == 0;
+        tell(flow(), random.nextInt(12) == 0);
+    }
+
+    private void tell(int flow, boolean whole) {
         int l = model.send(flow, whole);
         due("send(" + flow + ", " + whole + ")", real.send(flow, whole), l);
         compareLetter(l);
     }
 
+    /** In some runs of each letter, in some of a few, since the looks take calls from the run. */
     private void compareLetter(int l) {
         if (l < 0) {
             return;
         }
         KINDS[model.look(l, 0)]++;
+        if (isHasty || random.nextInt(4) >= comparedLetters) {
+            return;
+        }
         for (int what = 0; what < 7; what++) {
-            Due.is(run + ": look(" + l + ", " + what + ")", real.look(l, what), model.look(l, what));
+            due("look(" + l + ", " + what + ")", real.look(l, what), model.look(l, what));
         }
-        for (int k = -1; k <= model.look(l, 3); k++) {
-            Due.is(run + ": octet(" + l + ", " + k + ")", real.octet(l, k), model.octet(l, k));
+        for (int k = 0; k <= model.look(l, 3); k++) {
+            due("octet(" + l + ", " + k + ")", real.octet(l, k), model.octet(l, k));
         }
-        for (int f = -1; f < 9; f++) {
-            for (int what = -1; what < 5; what++) {
-                Due.is(run + ": prove(" + l + ", " + f + ", " + what + ")",
-                        real.prove(l, f, what), model.prove(l, f, what));
-            }
+        int f = random.nextInt(8);
+        for (int what = 0; what < 4; what++) {
+            proveOf(l, f, what);
         }
     }
 
@@ -234,9 +260,10 @@ public final class ModelTest {
     }
 
     private void prove() {
-        int l = recent();
-        int f = number(8);
-        int what = number(4);
+        proveOf(recent(), number(8), number(4));
+    }
+
+    private void proveOf(int l, int f, int what) {
         due("prove(" + l + ", " + f + ", " + what + ")", real.prove(l, f, what), model.prove(l, f, what));
     }
 
@@ -317,40 +344,27 @@ public final class ModelTest {
         due("count(" + what + ")", real.count(what), model.count(what));
     }
 
-    /** Goes on behind the 512th call, where the document leaves answers free: the class has no such end. */
-    private void compareAll() {
-        for (int l = 0; l < model.count(1); l++) {
-            compareLetter(l);
-        }
-        for (int flow = 0; flow < 8; flow++) {
-            for (int what = 0; what < 5; what++) {
-                due("squeezer", real.squeezer(flow, what), model.squeezer(flow, what));
-                due("context", real.context(flow, what), model.context(flow, what));
-            }
-            for (int f = 0; f < 8; f++) {
-                due("known", real.known(flow, f, false), model.known(flow, f, false));
-                due("known", real.known(flow, f, true), model.known(flow, f, true));
-            }
-            for (int kind = 0; kind < 6; kind++) {
-                for (int what = 0; what < 3; what++) {
-                    due("spent", real.spent(flow, kind, what), model.spent(flow, kind, what));
-                }
-            }
-        }
-        for (int f = 0; f < 9; f++) {
-            due("got", real.got(f), model.got(f));
-            due("way", real.way(f), model.way(f));
-            due("set", real.set(f, 0), model.set(f, 0));
-        }
-        for (int what = 0; what < 5; what++) {
-            due("hung", real.hung(what), model.hung(what));
-            due("count", real.count(what), model.count(what));
-        }
-        for (int s = 0; s < 8; s++) {
-            due("worth", real.worth(s), model.worth(s));
-            for (int i = 0; i < 61; i++) {
-                due("put", real.put(s, i, 0), model.put(s, i, 0));
-            }
+    /** One call that tells something of the object, its arguments mostly within what there is. */
+    private void observe() {
+        int flow = random.nextInt(8) == 0 ? random.nextInt(8) : flow();
+        int f = number(Math.max(1, model.count(0)));
+        int l = recent();
+        int s = number(8);
+        switch (random.nextInt(14)) {
+            case 0 -> octet();
+            case 1 -> look();
+            case 2 -> proveOf(l, f, number(4));
+            case 3 -> due("got(" + f + ")", real.got(f), model.got(f));
+            case 4 -> due("way(" + f + ")", real.way(f), model.way(f));
+            case 5 -> due("known(" + flow + ", " + f + ", false)", real.known(flow, f, false), model.known(flow, f, false));
+            case 6 -> due("known(" + flow + ", " + f + ", true)", real.known(flow, f, true), model.known(flow, f, true));
+            case 7 -> squeezer();
+            case 8 -> spent();
+            case 9 -> set(f, random.nextLong());
+            case 10 -> stride(flow, f, random.nextInt(256));
+            case 11 -> put();
+            case 12 -> due("worth(" + s + ")", real.worth(s), model.worth(s));
+            default -> due("context(" + flow + ", 1)", real.context(flow, 1), model.context(flow, 1));
         }
     }
 }

@@ -1,16 +1,5 @@
 /** For each promise of the document, by its number: ordinary calls, the edges it names, wrong inputs. */
-public final class PromiseTest {
-    private static final int STILL = 0;
-    private static final int TIED = 1;
-    private static final int RUNNING = 2;
-    private static final int CLOCKED = 3;
-    private static final int FREE = 4;
-    private static final int MIN = Integer.MIN_VALUE;
-    private static final int MAX = Integer.MAX_VALUE;
-    private static final int[] OUT_OF_8 = {-1, 8, MIN, MAX, 9, -8};
-
-    private static String promise = "";
-
+public final class PromiseTest extends Scene {
     public static void main(String[] args) {
         promise01NewObject();
         promise02Field();
@@ -56,18 +45,14 @@ public final class PromiseTest {
         Due.finish();
     }
 
-    private static void due(String call, long got, long want) {
-        Due.is(promise + ": " + call, got, want);
-    }
-
     private static void promise01NewObject() {
-        promise = "1";
+        Due.about("1");
         int[] ws = {0, 1, 7, 8, 9, 15, -1, -7, -8, -9, MAX, MIN, MIN + 1};
         int[] windows = {1, 2, 8, 1, 2, 8, 8, 2, 1, 8, 8, 1, 2};
         for (int i = 0; i < ws.length; i++) {
-            due("count(2) of " + ws[i], new HeaderLine(ws[i]).count(2), windows[i]);
+            due("count(2) of " + ws[i], new Line(ws[i]).count(2), windows[i]);
         }
-        HeaderLine x = new HeaderLine(3);
+        Line x = new Line(3);
         due("count(0)", x.count(0), 0);
         due("count(1)", x.count(1), 0);
         due("count(3)", x.count(3), 0);
@@ -93,8 +78,8 @@ public final class PromiseTest {
     }
 
     private static void promise02Field() {
-        promise = "2";
-        HeaderLine x = new HeaderLine(0);
+        Due.about("2");
+        Line x = new Line(0);
         due("kind -1", x.field(-1, 8, 0, 1), -1);
         due("kind 5", x.field(5, 8, 0, 1), -1);
         due("width 0", x.field(STILL, 0, 0, 1), -1);
@@ -124,14 +109,14 @@ public final class PromiseTest {
     }
 
     private static void promise02PlanCloses() {
-        promise = "2 closes";
-        HeaderLine x = new HeaderLine(0);
+        Due.about("2 closes");
+        Line x = new Line(0);
         due("field", x.field(STILL, 8, 0, 0), 0);
         due("send", x.send(0, false), 0);
         due("field", x.field(STILL, 8, 0, 0), -3);
         due("field, wrong", x.field(STILL, 33, 0, 0), -1);
         due("count(0)", x.count(0), 1);
-        HeaderLine y = new HeaderLine(0);
+        Line y = new Line(0);
         due("refused ack", y.ack(0), -3);
         due("refused send", y.send(0, true), -3);
         due("nack", y.nack(0), 0);
@@ -140,8 +125,8 @@ public final class PromiseTest {
     }
 
     private static void promise03Set() {
-        promise = "3";
-        HeaderLine x = new HeaderLine(0);
+        Due.about("3");
+        Line x = new Line(0);
         x.field(STILL, 1, 0, 0);
         x.field(FREE, 32, 0, 0);
         x.field(RUNNING, 12, 0, 0);
@@ -163,8 +148,8 @@ public final class PromiseTest {
     }
 
     private static void promise04Stride() {
-        promise = "4";
-        HeaderLine x = mixed(3);
+        Due.about("4");
+        Line x = mixed(3);
         due("STILL", x.stride(0, 0, 1), -1);
         due("TIED", x.stride(0, 1, 1), -1);
         due("FREE", x.stride(0, 4, 1), -1);
@@ -193,8 +178,8 @@ public final class PromiseTest {
     }
 
     private static void promise05SendWholeShortPart() {
-        promise = "5 bits";
-        HeaderLine x = mixed(3);
+        Due.about("5 bits");
+        Line x = mixed(3);
         x.stride(5, 2, 2);
         x.stride(5, 3, 3);
         draft(x, 7, 12, 1000, 5000, 19);
@@ -224,8 +209,8 @@ public final class PromiseTest {
     }
 
     private static void promise05SendRefusals() {
-        promise = "5 refusals";
-        HeaderLine x = new HeaderLine(0);
+        Due.about("5 refusals");
+        Line x = new Line(0);
         for (int flow : OUT_OF_8) {
             due("FLOW " + flow, x.send(flow, true), -1);
         }
@@ -241,7 +226,7 @@ public final class PromiseTest {
         due("NUMBER", x.squeezer(0, 0), 100);
         due("ROUND", x.squeezer(0, 1), 1);
         due("count(1)", x.count(1), 200);
-        HeaderLine y = new HeaderLine(0);
+        Line y = new Line(0);
         for (int l = 0; l < 200; l++) {
             due("nack", y.nack(0), l);
         }
@@ -249,8 +234,8 @@ public final class PromiseTest {
     }
 
     private static void promise05WhichKind() {
-        promise = "5 kinds";
-        HeaderLine x = new HeaderLine(1);
+        Due.about("5 kinds");
+        Line x = new Line(1);
         x.field(FREE, 8, 0, 0);
         x.field(TIED, 4, 0, -3);
         x.field(STILL, 8, 0, 0);
@@ -288,14 +273,14 @@ public final class PromiseTest {
 
     /** TIED to a TIED, a RUNNING and a wider FIELD; the DIFFERENCE is modulo 2^WIDTH. */
     private static void promise05TiesOfTies() {
-        promise = "5 ties";
-        HeaderLine x = new HeaderLine(1);
+        Due.about("5 ties");
+        Line x = new Line(1);
         x.field(STILL, 8, 0, 0);
         x.field(RUNNING, 16, 0, 0);
         x.field(TIED, 4, 1, -1);
         x.field(TIED, 32, 2, MIN);
         x.field(TIED, 1, 3, MAX);
-        for (int m = 0; m < 40; m++) {
+        for (int m = 0; m < 32; m++) {
             long running = 65520 + m;
             long tied = (running + 15) % 16;
             draft(x, 9, running, tied, 2147483648L + tied, (tied + 1) % 2);
@@ -308,9 +293,9 @@ public final class PromiseTest {
     }
 
     private static void promise05References() {
-        promise = "5 references";
+        Due.about("5 references");
         for (int w = 0; w < 8; w++) {
-            HeaderLine x = new HeaderLine(w);
+            Line x = new Line(w);
             x.field(RUNNING, 8, 0, 0);
             for (int m = 0; m < 20; m++) {
                 x.send(4, false);
@@ -327,8 +312,8 @@ public final class PromiseTest {
     }
 
     private static void promise05RoundsTurn() {
-        promise = "5 rounds";
-        HeaderLine x = new HeaderLine(0);
+        Due.about("5 rounds");
+        Line x = new Line(0);
         x.field(STILL, 6, 0, 0);
         for (int m = 0; m < 40; m++) {
             x.send(0, true);
@@ -341,11 +326,11 @@ public final class PromiseTest {
 
     /** n for one reference at 100 that gives 101: the span is g - 2^(n-1) .. g + 2^(n-1) - 1. */
     private static void promise05LeastBits() {
-        promise = "5 least n";
+        Due.about("5 least n");
         int[] off = {0, -1, 1, -2, -3, 2, 3, -4, 4, -5, 7, -8, 8, 127, -128, 128, -129, 32767, -32768};
         int[] n = {0, 1, 2, 2, 3, 3, 3, 3, 4, 4, 4, 4, 5, 8, 8, 9, 9, 16, 16};
         for (int i = 0; i < off.length; i++) {
-            HeaderLine x = new HeaderLine(7);
+            Line x = new Line(7);
             x.field(RUNNING, 16, 0, 0);
             x.set(0, 100);
             x.send(0, false);
@@ -360,8 +345,8 @@ public final class PromiseTest {
     }
 
     private static void promise05WideFields() {
-        promise = "5 wide";
-        HeaderLine x = new HeaderLine(7);
+        Due.about("5 wide");
+        Line x = new Line(7);
         for (int f = 0; f < 8; f++) {
             x.field(f % 2 == 0 ? RUNNING : CLOCKED, 32, 0, 1000);
             x.set(f, 4294967295L);
@@ -383,8 +368,8 @@ public final class PromiseTest {
     }
 
     private static void promise06Ack() {
-        promise = "6";
-        HeaderLine x = mixed(3);
+        Due.about("6");
+        Line x = mixed(3);
         due("no CONTEXT", x.ack(0), -3);
         for (int flow : OUT_OF_8) {
             due("FLOW " + flow, x.ack(flow), -1);
@@ -406,8 +391,8 @@ public final class PromiseTest {
     }
 
     private static void promise07Nack() {
-        promise = "7";
-        HeaderLine x = mixed(3);
+        Due.about("7");
+        Line x = mixed(3);
         for (int flow : OUT_OF_8) {
             due("FLOW " + flow, x.nack(flow), -1);
         }
@@ -427,15 +412,15 @@ public final class PromiseTest {
         fill(x);
         due("full", x.nack(6), -2);
         due("full, no FLOW", x.nack(-1), -1);
-        HeaderLine y = withContextAt65535();
+        Line y = withContextAt65535();
         int l = y.nack(0);
         due("behind 65535", y.look(l, 2), 0);
         dueBits(y, l, "100 000 0000000000000000", true);
     }
 
     private static void promise08BrokenWhole() {
-        promise = "8 BROKEN WHOLE";
-        HeaderLine x = new HeaderLine(0);
+        Due.about("8 BROKEN WHOLE");
+        Line x = new Line(0);
         x.field(RUNNING, 8, 0, 0);
         x.set(0, 9);
         x.send(1, false);
@@ -466,8 +451,8 @@ public final class PromiseTest {
     }
 
     private static void promise08BrokenPartAndShort() {
-        promise = "8 BROKEN PART, SHORT";
-        HeaderLine x = new HeaderLine(0);
+        Due.about("8 BROKEN PART, SHORT");
+        Line x = new Line(0);
         x.field(STILL, 8, 0, 0);
         x.field(RUNNING, 8, 0, 0);
         x.send(0, false);
@@ -504,7 +489,7 @@ public final class PromiseTest {
 
     /** n above WIDTH is BROKEN even where the letter is long enough for it. */
     private static void aboveWidthThatFits() {
-        HeaderLine x = new HeaderLine(0);
+        Line x = new Line(0);
         x.field(RUNNING, 2, 0, 0);
         x.field(FREE, 4, 0, 0);
         x.send(0, false);
@@ -519,8 +504,8 @@ public final class PromiseTest {
     }
 
     private static void promise08OtherOutcomes() {
-        promise = "8";
-        HeaderLine x = mixed(1);
+        Due.about("8");
+        Line x = mixed(1);
         for (int l : new int[] {-1, 0, 1, 199, 200, MIN, MAX}) {
             due("no LETTER", x.deliver(l), -1);
         }
@@ -548,7 +533,7 @@ public final class PromiseTest {
 
     /** An ACK of a header that the opener then forgets is how like letters come to be UNLIKE. */
     private static void unlikeByForgottenHeaders() {
-        HeaderLine x = new HeaderLine(7);
+        Line x = new Line(7);
         x.field(STILL, 8, 0, 0);
         draft(x, 1);
         x.send(0, false);
@@ -572,8 +557,8 @@ public final class PromiseTest {
 
     /** Of outcomes that hold at once the first told one is due: 5, 3, 1, 2, 4. */
     private static void promise08OrderOfOutcomes() {
-        promise = "8 order";
-        HeaderLine x = new HeaderLine(0);
+        Due.about("8 order");
+        Line x = new Line(0);
         x.field(FREE, 6, 0, 0);
         for (int l = 0; l < 4; l++) {
             x.send(0, false);
@@ -597,9 +582,9 @@ public final class PromiseTest {
     }
 
     private static void promise08FarEdge() {
-        promise = "8 FAR";
+        Due.about("8 FAR");
         for (int w = 0; w < 8; w++) {
-            HeaderLine x = new HeaderLine(w);
+            Line x = new Line(w);
             x.field(CLOCKED, 10, 0, 7);
             for (int m = 0; m < 12; m++) {
                 x.set(0, 1000 + 7 * m + m % 3);
@@ -614,8 +599,8 @@ public final class PromiseTest {
     }
 
     private static void promise08Answers() {
-        promise = "8 answers";
-        HeaderLine x = new HeaderLine(7);
+        Due.about("8 answers");
+        Line x = new Line(7);
         x.field(RUNNING, 8, 0, 0);
         int stale = x.nack(0);
         due("STALE, owed already", x.deliver(stale), 7);
@@ -661,8 +646,8 @@ public final class PromiseTest {
     }
 
     private static void promise08Flows() {
-        promise = "8 flows";
-        HeaderLine x = new HeaderLine(0);
+        Due.about("8 flows");
+        Line x = new Line(0);
         x.field(RUNNING, 8, 0, 0);
         for (int flow = 0; flow < 8; flow++) {
             x.set(0, 10 * flow);
@@ -683,8 +668,8 @@ public final class PromiseTest {
     }
 
     private static void promise09Lose() {
-        promise = "9";
-        HeaderLine x = mixed(0);
+        Due.about("9");
+        Line x = mixed(0);
         due("none", x.lose(0), -1);
         x.send(0, false);
         x.send(0, false);
@@ -702,8 +687,8 @@ public final class PromiseTest {
     }
 
     private static void promise10Twice() {
-        promise = "10";
-        HeaderLine x = mixed(3);
+        Due.about("10");
+        Line x = mixed(3);
         due("none", x.twice(0), -1);
         draft(x, 7, 12, 0, 0, 0);
         x.send(2, false);
@@ -735,8 +720,8 @@ public final class PromiseTest {
     }
 
     private static void promise11Bend() {
-        promise = "11";
-        HeaderLine x = new HeaderLine(0);
+        Due.about("11");
+        Line x = new Line(0);
         x.field(STILL, 6, 0, 0);
         x.set(0, 63);
         x.send(0, false);
@@ -758,8 +743,8 @@ public final class PromiseTest {
     }
 
     private static void promise12Octet() {
-        promise = "12";
-        HeaderLine x = new HeaderLine(0);
+        Due.about("12");
+        Line x = new Line(0);
         x.field(STILL, 6, 0, 0);
         due("no LETTER", x.octet(0, 0), -1);
         x.set(0, 5);
@@ -777,8 +762,8 @@ public final class PromiseTest {
     }
 
     private static void promise13Look() {
-        promise = "13";
-        HeaderLine x = mixed(3);
+        Due.about("13");
+        Line x = mixed(3);
         due("none", x.look(0, 0), -1);
         x.send(3, false);
         x.send(3, false);
@@ -823,8 +808,8 @@ public final class PromiseTest {
     }
 
     private static void promise14Prove() {
-        promise = "14";
-        HeaderLine x = new HeaderLine(3);
+        Due.about("14");
+        Line x = new Line(3);
         x.field(RUNNING, 16, 0, 0);
         x.field(STILL, 8, 0, 0);
         x.field(CLOCKED, 16, 0, 10);
@@ -871,7 +856,7 @@ public final class PromiseTest {
     }
 
     private static void youngerOneDecides() {
-        HeaderLine x = new HeaderLine(3);
+        Line x = new Line(3);
         x.field(RUNNING, 16, 0, 0);
         int[] running = {100, 101, 150, 103};
         for (int m = 0; m < 4; m++) {
@@ -884,8 +869,8 @@ public final class PromiseTest {
     }
 
     private static void promise15to17Got() {
-        promise = "15 to 17";
-        HeaderLine x = mixed(3);
+        Due.about("15 to 17");
+        Line x = mixed(3);
         due("got, none", x.got(0), -2);
         due("way, none", x.way(0), -2);
         due("got, no FIELD", x.got(5), -1);
@@ -927,8 +912,8 @@ public final class PromiseTest {
     }
 
     private static void promise18Context() {
-        promise = "18";
-        HeaderLine x = mixed(3);
+        Due.about("18");
+        Line x = mixed(3);
         due("none", x.context(0, 0), 0);
         due("none", x.context(0, 1), -2);
         due("none", x.context(0, 2), -2);
@@ -948,13 +933,13 @@ public final class PromiseTest {
         for (int flow : OUT_OF_8) {
             due("FLOW " + flow, x.context(flow, 0), -1);
         }
-        HeaderLine y = withContextAt65535();
+        Line y = withContextAt65535();
         due("as it stood", y.context(0, 1), 65535);
     }
 
     private static void promise19Known() {
-        promise = "19";
-        HeaderLine x = mixed(3);
+        Due.about("19");
+        Line x = mixed(3);
         due("none", x.known(0, 0, false), -2);
         due("none", x.known(0, 0, true), -2);
         due("none, no FIELD", x.known(0, 5, false), -1);
@@ -989,8 +974,8 @@ public final class PromiseTest {
     }
 
     private static void promise20Squeezer() {
-        promise = "20";
-        HeaderLine x = mixed(1);
+        Due.about("20");
+        Line x = mixed(1);
         x.send(0, false);
         x.send(0, false);
         x.send(0, false);
@@ -1007,8 +992,8 @@ public final class PromiseTest {
     }
 
     private static void promise21Forget() {
-        promise = "21";
-        HeaderLine x = mixed(3);
+        Due.about("21");
+        Line x = mixed(3);
         due("no CONTEXT", x.forget(0, 1), 0);
         due("no reference", x.forget(0, 0), 0);
         x.send(0, false);
@@ -1034,8 +1019,8 @@ public final class PromiseTest {
     }
 
     private static void promise22Spent() {
-        promise = "22";
-        HeaderLine x = new HeaderLine(3);
+        Due.about("22");
+        Line x = new Line(3);
         x.field(FREE, 10, 0, 0);
         x.field(STILL, 4, 0, 0);
         x.send(0, false);
@@ -1078,7 +1063,7 @@ public final class PromiseTest {
         for (int flow : OUT_OF_8) {
             due("FLOW " + flow, x.spent(flow, 0, 0), -1);
         }
-        HeaderLine y = mixed(3);
+        Line y = mixed(3);
         draft(y, 0, 5, 0, 0, 0);
         y.send(0, false);
         y.send(0, false);
@@ -1086,8 +1071,8 @@ public final class PromiseTest {
     }
 
     private static void promise23Keep() {
-        promise = "23";
-        HeaderLine x = mixed(2);
+        Due.about("23");
+        Line x = mixed(2);
         for (int s : OUT_OF_8) {
             due("SHELF " + s, x.keep(s, 0, 0), -1);
         }
@@ -1140,7 +1125,7 @@ public final class PromiseTest {
     }
 
     private static void keepWidest() {
-        HeaderLine x = new HeaderLine(0);
+        Line x = new Line(0);
         for (int f = 0; f < 8; f++) {
             x.field(RUNNING, 32, 0, 0);
             x.set(f, -1);
@@ -1155,8 +1140,8 @@ public final class PromiseTest {
     }
 
     private static void promise24Make() {
-        promise = "24";
-        HeaderLine x = new HeaderLine(0);
+        Due.about("24");
+        Line x = new Line(0);
         for (int s : OUT_OF_8) {
             due("SHELF " + s, x.make(s, 2, 1), -1);
             due("SHELF " + s, x.make(s, 2, -1), -1);
@@ -1187,8 +1172,8 @@ public final class PromiseTest {
     }
 
     private static void promise25Put() {
-        promise = "25";
-        HeaderLine x = mixed(0);
+        Due.about("25");
+        Line x = mixed(0);
         x.send(0, false);
         x.keep(1, 1, 0);
         x.make(2, 2, 3);
@@ -1212,8 +1197,8 @@ public final class PromiseTest {
     }
 
     private static void promise26Copy() {
-        promise = "26";
-        HeaderLine x = mixed(0);
+        Due.about("26");
+        Line x = mixed(0);
         x.send(0, false);
         x.keep(1, 1, 0);
         for (int what = 2; what < 5; what++) {
@@ -1236,7 +1221,7 @@ public final class PromiseTest {
         }
     }
 
-    private static void copyRows(HeaderLine x, int what) {
+    private static void copyRows(Line x, int what) {
         x.make(5, what, 3);
         for (int i = 0; i < 5; i++) {
             x.put(what, i, 10 + i);
@@ -1270,8 +1255,8 @@ public final class PromiseTest {
         }
     }
 
-    private static HeaderLine withLettersOfAllKinds() {
-        HeaderLine x = new HeaderLine(0);
+    private static Line withLettersOfAllKinds() {
+        Line x = new Line(0);
         x.field(STILL, 4, 0, 0);
         x.send(0, false);
         x.set(0, 1);
@@ -1288,8 +1273,8 @@ public final class PromiseTest {
     }
 
     private static void promise27Worth() {
-        promise = "27";
-        HeaderLine x = withLettersOfAllKinds();
+        Due.about("27");
+        Line x = withLettersOfAllKinds();
         int[] want = {50, 50 + 1 + 3, (50 + 2 + 3) * 2, 40 + 3 + 1, 40 + 4 + 1 + 5, (40 + 5 + 1 + 5) * 3};
         for (int l = 0; l < 6; l++) {
             x.keep(l, 1, l);
@@ -1308,15 +1293,15 @@ public final class PromiseTest {
         due("a bent copy, KIND as made", x.worth(7), want[2]);
         x.keep(7, 0, 0);
         due("nothing again", x.worth(7), -11);
-        HeaderLine y = mixed(0);
+        Line y = mixed(0);
         y.send(0, false);
         y.keep(0, 1, 0);
         due("14 bytes", y.worth(0), 140);
     }
 
     private static void promise28Toss() {
-        promise = "28";
-        HeaderLine x = withLettersOfAllKinds();
+        Due.about("28");
+        Line x = withLettersOfAllKinds();
         int[] want = {-15, 1, 2, -15, 4, 5};
         for (int l = 0; l < 6; l++) {
             x.keep(l, 1, l);
@@ -1334,8 +1319,8 @@ public final class PromiseTest {
     }
 
     private static void promise29Count() {
-        promise = "29";
-        HeaderLine x = mixed(5);
+        Due.about("29");
+        Line x = mixed(5);
         x.send(0, false);
         x.send(0, false);
         x.twice(0);
@@ -1350,98 +1335,13 @@ public final class PromiseTest {
         }
     }
 
-    /** STILL 8; TIED 8 to it by 5; RUNNING 16; CLOCKED 20 by 10; FREE 5. */
-    private static HeaderLine mixed(int w) {
-        HeaderLine x = new HeaderLine(w);
-        x.field(STILL, 8, 0, 0);
-        x.field(TIED, 8, 0, 5);
-        x.field(RUNNING, 16, 0, 0);
-        x.field(CLOCKED, 20, 0, 10);
-        x.field(FREE, 5, 0, 0);
-        return x;
-    }
-
-    private static void draft(HeaderLine x, long... values) {
-        for (int f = 0; f < values.length; f++) {
-            x.set(f, values[f]);
-        }
-    }
-
-    private static void fill(HeaderLine x) {
-        for (int i = 0; i < 200 && x.count(1) < 200; i++) {
-            x.nack(7);
-        }
-        due("count(1)", x.count(1), 200);
-    }
-
-    /** Turns bits of a byte and sets CHECK right again, so that only the turned bits can be at fault. */
-    private static void bendAndMend(HeaderLine x, int l, int k, int mask) {
-        x.bend(l, k, mask);
-        int last = x.look(l, 3) - 1;
-        int total = 0;
-        for (int i = 0; i < last; i++) {
-            total += x.octet(l, i);
-        }
-        int wanted = 255 - total % 256;
-        if (wanted != x.octet(l, last)) {
-            x.bend(l, last, wanted ^ x.octet(l, last));
-        }
-    }
-
-    private static HeaderLine withContextAt65535() {
-        HeaderLine x = mixed(0);
+    private static Line withContextAt65535() {
+        Line x = mixed(0);
         x.send(0, false);
         bendAndMend(x, 0, 0, 3);
         bendAndMend(x, 0, 1, 255);
         bendAndMend(x, 0, 2, 252);
         due("deliver", x.deliver(0), 0);
         return x;
-    }
-
-    private static String sum(long... values) {
-        long sum = 17;
-        for (long value : values) {
-            sum = (sum * 31 + value) % 256;
-        }
-        String bits = Long.toBinaryString(256 + sum);
-        return bits.substring(1);
-    }
-
-    private static void dueBits(HeaderLine x, int l, String spaced, boolean hasCheck) {
-        StringBuilder bits = new StringBuilder(spaced.replace(" ", ""));
-        due("bits of LETTER " + l, x.look(l, 4), bits.length());
-        while (bits.length() % 8 != 0) {
-            bits.append('0');
-        }
-        int bytes = bits.length() / 8;
-        int total = 0;
-        for (int k = 0; k < bytes; k++) {
-            int want = Integer.parseInt(bits.substring(8 * k, 8 * k + 8), 2);
-            total += want;
-            due("octet(" + l + ", " + k + ")", x.octet(l, k), want);
-        }
-        if (hasCheck) {
-            due("CHECK of LETTER " + l, x.octet(l, bytes), 255 - total % 256);
-            bytes++;
-        }
-        due("bytes of LETTER " + l, x.look(l, 3), bytes);
-    }
-
-    private static void dueGot(HeaderLine x, long... values) {
-        for (int f = 0; f < values.length; f++) {
-            due("got(" + f + ")", x.got(f), values[f]);
-        }
-    }
-
-    private static void dueWays(HeaderLine x, int... ways) {
-        for (int f = 0; f < ways.length; f++) {
-            due("way(" + f + ")", x.way(f), ways[f]);
-        }
-    }
-
-    private static void dueHung(HeaderLine x, int... answers) {
-        for (int what = 0; what < answers.length; what++) {
-            due("hung(" + what + ")", x.hung(what), answers[what]);
-        }
     }
 }
