@@ -252,6 +252,16 @@ final class OpenerSentences extends Scene {
                 due("WHOLE is never FAR", x.deliver(whole), TAKEN);
             }
         }
+        for (int number : new int[] {1, 2, 3, 128, 255, 256, 257, 4096, 4097, 32767, 32768, 32769, 65535}) {
+            Line x = orderly();
+            x.deliver(0);
+            become(x, 1, shortLetter(number, 1, 9, true), false);
+            due("SHORT of " + number, x.deliver(1), number == 1 ? TAKEN : FAR);
+            x.forget(0, 1);
+            x.deliver(0);
+            become(x, 0, beginning(WHOLE, 0, number) + "0010 0000", true);
+            due("WHOLE of " + number, x.deliver(0), TAKEN);
+        }
     }
 
     private static void unlikeBySum() {

@@ -606,8 +606,9 @@ final class SqueezerSentences extends Scene {
 
     private static void forgetReferences() {
         Doc.promise(21, "or the FLOW owes a WHOLE letter, and has no references (end 0):");
-        Line x = single(7, FREE, 8);
+        Line x = single(7, RUNNING, 8);
         due("none to go", x.forget(0, 0), 0);
+        x.stride(0, 0, 77);
         x.send(0, false);
         x.send(0, false);
         x.send(1, false);
@@ -620,5 +621,6 @@ final class SqueezerSentences extends Scene {
         x.send(0, false);
         due("WHOLE", x.look(3, 0), WHOLE);
         dueSqueezer(x, 0, 3, 2, 1, 2, 0);
+        due("the STRIDE stays", x.stride(0, 0, 1), 77);
     }
 }
