@@ -1,5 +1,6 @@
 import java.io.IOException;
 import java.lang.management.ManagementFactory;
+import java.lang.reflect.Constructor;
 import java.lang.reflect.Field;
 import java.lang.reflect.Method;
 import java.lang.reflect.Modifier;
@@ -19,17 +20,6 @@ import java.util.stream.Collectors;
 
 /** The public face, those rules of LANGUAGE.md that a program can see, the room of a run, and that none throws. */
 public final class LanguageTest {
-    private static final String[] FACE = {
-        "int field(int, int, int, int)", "long set(int, long)", "int stride(int, int, int)",
-        "int send(int, boolean)", "int ack(int)", "int nack(int)", "int deliver(int)", "int lose(int)",
-        "int twice(int)", "int bend(int, int, int)", "int octet(int, int)", "int look(int, int)",
-        "int prove(int, int, int)", "long got(int)", "int way(int)", "int hung(int)",
-        "int context(int, int)", "long known(int, int, boolean)", "int squeezer(int, int)",
-        "int forget(int, int)", "long spent(int, int, int)", "int keep(int, int, int)",
-        "int make(int, int, int)", "long put(int, int, int)", "int copy(int, int, int, int, int)",
-        "int worth(int)", "int toss(int)", "int count(int)",
-    };
-
     private static final Method[] METHODS = Arrays.stream(HeaderLine.class.getDeclaredMethods())
             .filter(m -> Modifier.isPublic(m.getModifiers()))
             .sorted(Comparator.comparing(Method::getName)).toArray(Method[]::new);
@@ -52,13 +42,30 @@ public final class LanguageTest {
         Due.finish();
     }
 
-    private static void face() {
+    /** The document's face, a signature each, by the types of its parameters. */
+    private static Set<String> dueFace() throws IOException {
+        Path project = Path.of(System.getProperty("project", "."));
+        String text = Files.readString(project.resolve("../shared/DOC.md"));
+        Matcher face = Pattern.compile("(?s)## The public face\\s+```java\n(.*?)```").matcher(text);
+        Set<String> due = new TreeSet<>();
+        if (face.find()) {
+            Matcher signature = Pattern.compile("public (?!final class)([^;]+);").matcher(face.group(1));
+            while (signature.find()) {
+                due.add(signature.group(1).replaceAll("(int|long|boolean) \\w+(?=[,)])", "$1"));
+            }
+        }
+        return due;
+    }
+
+    private static void face() throws IOException {
         Class<?> c = HeaderLine.class;
         Due.holds("public and final", Modifier.isPublic(c.getModifiers()) && Modifier.isFinal(c.getModifiers()));
         Due.holds("no package", c.getPackageName().isEmpty());
-        Due.is("constructors", c.getDeclaredConstructors().length, 1);
-        Due.holds("the constructor", c.getDeclaredConstructors()[0].toString().equals("public HeaderLine(int)"));
         Set<String> seen = new TreeSet<>();
+        for (Constructor<?> made : c.getDeclaredConstructors()) {
+            Due.holds(made + " is public", Modifier.isPublic(made.getModifiers()));
+            seen.add(made.toString().replace("public ", "").replace(",", ", "));
+        }
         for (Method m : c.getDeclaredMethods()) {
             String types = Arrays.stream(m.getParameterTypes()).map(Class::getSimpleName).collect(Collectors.joining(", "));
             if (Modifier.isPublic(m.getModifiers())) {
@@ -68,7 +75,9 @@ public final class LanguageTest {
                 Due.holds(m + " is private", Modifier.isPrivate(m.getModifiers()));
             }
         }
-        Due.holds("the face is the document's: " + seen, seen.equals(new TreeSet<>(Arrays.asList(FACE))));
+        Set<String> due = dueFace();
+        Due.is("constructor and methods in the document's face", due.size(), 29);
+        Due.holds("the face is the document's: " + seen + ", due is " + due, seen.equals(due));
         for (Field f : c.getDeclaredFields()) {
             Due.holds(f + " is private", Modifier.isPrivate(f.getModifiers()));
         }
